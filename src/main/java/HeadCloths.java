@@ -1477,7 +1477,7 @@ public final class HeadCloths {
             variables[ALL] = state.ownAll(head);
         }
 
-        /** Steps only go forward, so the last one ends it; held to nothing, a law need not be worked out. */
+        /** Steps only go forward, so the last one ends it. */
         int told(int law, int most) {
             int depth = 0;
             for (int step = plan.startOf(law); step < plan.stepCount && most > 0; step++) {
@@ -1556,23 +1556,33 @@ public final class HeadCloths {
             return laws.told(Plan.LAW_PASSES, state.cloth(chair, thought));
         }
 
+        /** What is held to nothing need not be worked out; likewise below. */
         int washedOf(State state, int chair, int thought) {
+            int cloth = state.cloth(chair, thought);
+            if (cloth <= 0) {
+                return 0;
+            }
             laws.setWashing(state, chair, thought);
-            return laws.told(Plan.LAW_WASHES, state.cloth(chair, thought));
+            return laws.told(Plan.LAW_WASHES, cloth);
         }
 
         int fadedOf(State state, int head, int thought) {
+            int own = state.own(head, thought);
+            if (own <= 0) {
+                return 0;
+            }
             laws.setFading(state, head, thought);
-            return laws.told(Plan.LAW_FADES, state.own(head, thought));
+            return laws.told(Plan.LAW_FADES, own);
         }
 
         int gainOf(State state, int head, int chair, int thought) {
-            if (state.isStarched(chair)) {
+            int cloth = state.cloth(chair, thought);
+            int own = state.own(head, thought);
+            if (state.isStarched(chair) || cloth <= 0 && own <= 0) {
                 return 0;
             }
             laws.setSitting(state, head, chair, thought);
-            int passed = laws.told(Plan.LAW_PASSES, state.cloth(chair, thought));
-            return passed - laws.told(Plan.LAW_KEEPS, state.own(head, thought));
+            return laws.told(Plan.LAW_PASSES, cloth) - laws.told(Plan.LAW_KEEPS, own);
         }
 
         int washedOfAll(State state, int chair) {
