@@ -818,14 +818,6 @@ public final class HeadCloths {
             }
         }
 
-        int stepKind(int step) {
-            return step >= 0 && step < stepCount && step < steps.length ? steps[step] & 7 : ANSWER;
-        }
-
-        int stepValue(int step) {
-            return step >= 0 && step < stepCount && step < steps.length ? steps[step] >>> 3 : 0;
-        }
-
         boolean hasChair(int chair) {
             return chair >= 0 && chair < chairs;
         }
@@ -1477,12 +1469,13 @@ public final class HeadCloths {
             variables[ALL] = state.ownAll(head);
         }
 
-        /** Steps only go forward, so the last one ends it. */
+        /** Steps only go forward, so the row's end is the last there can be. */
         int told(int law, int most) {
+            int[] steps = plan.steps;
             int depth = 0;
-            for (int step = plan.startOf(law); step < plan.stepCount && most > 0; step++) {
-                int kind = plan.stepKind(step);
-                int value = plan.stepValue(step);
+            for (int step = plan.startOf(law); step >= 0 && step < steps.length && most > 0; step++) {
+                int kind = steps[step] & 7;
+                int value = steps[step] >>> 3;
                 if (kind == Plan.ANSWER) {
                     return depth == 1 ? Math.max(0, Math.min(stack[0], most)) : 0;
                 }
@@ -1490,7 +1483,7 @@ public final class HeadCloths {
                     if (depth < 0 || depth >= stack.length) {
                         return 0;
                     }
-                    stack[depth] = kind == Plan.NUMBER ? value : variable(value);
+                    stack[depth] = kind == Plan.NUMBER || value >= variables.length ? value : variables[value];
                     depth++;
                     continue;
                 }
@@ -1511,10 +1504,6 @@ public final class HeadCloths {
                 depth++;
             }
             return 0;
-        }
-
-        private int variable(int which) {
-            return which >= 0 && which < variables.length ? variables[which] : 0;
         }
 
         private static int combined(int kind, int left, int right) {
