@@ -76,7 +76,7 @@ public final class FaultsTest {
         fine("chair c1;");
         fine("chair\tc\n1\r;");
         fine("chair c 0009;");
-        fine("chair eightsig 1;");
+        fine("chair eightsig 1;chair az 1;head zzzzzzzz 1 1 1 1 1;");
         fault("chairc 1;", 1, 0);
         fault("chair ninechars 1;", 1, 6);
         fault("chair averyverylongname 1;", 1, 6);
@@ -290,6 +290,8 @@ public final class FaultsTest {
         Checks.due("restore(0)", false, x.restore(0));
         Checks.due("undo()", false, x.undo());
         Checks.due("head(0, 5)", 1, x.head(0, 5));
+        Checks.due("head(0, 6)", 0, x.head(0, 6));
+        Checks.due("chair(0, 6)", 0, x.chair(0, 6));
         Checks.due("fades is told no more", 0, x.tells(0, 0, 0, 3));
         Checks.due("keeps is told no more", 1, x.tells(0, 0, 0, 0));
         Checks.due("hours(24)", 24, x.hours(24));

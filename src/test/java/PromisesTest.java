@@ -207,8 +207,13 @@ public final class PromisesTest {
         x.sit(0, 0);
         x.sit(0, 0);
         due("passes, not told", 1, x.tells(0, 0, 0, 1));
+        x = Checks.of("chair c 5;head h 2 90 90 0 0;keeps=5;");
+        x.sit(0, 0);
+        due("passes, not told, of more", 1, x.tells(0, 0, 0, 1));
+        x = Checks.of("chair c 5;head h 2 90 90 0 0;");
+        x.sit(0, 0);
         due("washes, not told", 1, x.tells(0, 0, 0, 2));
-        due("head stays", 89, x.head(0, 0));
+        due("one goes out, one in", 89, x.head(0, 0));
     }
 
     private static void sit() {
@@ -334,6 +339,14 @@ public final class PromisesTest {
         due("count(5)", 2, x.count(5));
         due("hours(72)", 120, x.hours(72));
         due("count(4)", 0, x.count(4));
+        x = Checks.of("chair c 0;head g 0 20 1 0 0;keeps=own;passes=0;monday 3;fades=if hour<1then 1else 0;");
+        x.hours(1);
+        owns("one fades too", x, 0, 19, 0, 0, 0);
+        x.sit(0, 0);
+        x.hours(70);
+        due("monday 3: hour 71 is not gone", 19, x.chair(0, 0));
+        x.hours(1);
+        due("monday 3", 0, x.chair(0, 0));
         x = Checks.of("chair c 0;head g 0 20 0 0 0;head h 0 0 0 0 0;visit h c 0;visit g c 0;visit h c 0;keeps=own;passes=cloth;");
         x.hours(1);
         due("visits in order", 20, x.head(1, 0));
@@ -400,6 +413,20 @@ public final class PromisesTest {
         x.hours(3);
         due("behind visits", 15, x.count(15));
         due("count(5)", 8, x.count(5));
+        x = Checks.of(house + "moth 100;seed 7;");
+        for (int chair : new int[] {2, 0, 1, 3, 0, 3}) {
+            for (int c = 0; c < 4; c++) {
+                x.sit(0, c);
+            }
+            due("chairIn(" + chair + ", 0, 1)", 0, x.chairIn(chair, 0, 1));
+            x.hours(1);
+            due("seed 7: which chair", 1 << chair, x.count(15));
+        }
+        // of seed 119 the LOT 100 in hour 0 is 0
+        x = Checks.of(house + "moth 1;seed 119;");
+        due("moth 1", 1, x.count(12));
+        x = Checks.of(house + "moth 0;seed 119;");
+        due("moth 0", 0, x.count(12));
         x = Checks.of("head h 0 99 0 0 0;moth 100;fades=1;");
         due("no chairs: a moth", 1, x.count(12));
         due("no chairs: hours(5)", 5, x.hours(5));
@@ -435,6 +462,12 @@ public final class PromisesTest {
         due("head(0, 6)", 0, x.head(0, 6));
         due("chair(0, 6)", 0, x.chair(0, 6));
         due("undo()", false, x.undo());
+        x.sit(0, 2);
+        x.hours(3);
+        due("undo() hours", true, x.undo());
+        squares("the third square", x, 2, 5, 2, 0, 0);
+        due("undo() sit", true, x.undo());
+        squares("the third square", x, 2, 0, 0, 0, 0);
         for (int i = 1; i <= 43; i++) {
             x.sit(1, 2);
             due("count(9)", Math.min(i, 40), x.count(9));
@@ -623,6 +656,10 @@ public final class PromisesTest {
         due("saysIn(1, 2): a moth", 0, x.saysIn(1, 2));
         due("lost(2): no moth", 0, x.lost(2));
         due("then(2, 4): a moth", 50, x.then(2, 4));
+        x = Checks.of("chair c 0;head g 0 50 50 0 0;head h 0 0 0 0 0;visit g c 0;visit h c 1;moth 100;says 50;"
+            + "keeps=if which<1then own else 0;passes=cloth*which;");
+        due("meet(0, 1, 2): no moth", 2, x.meet(0, 1, 2));
+        due("then(2, 4): a moth", 100, x.then(2, 4));
     }
 
     private static void pairs() {
@@ -652,6 +689,19 @@ public final class PromisesTest {
         // a: 4 4 0 0
         due("alike(0): the first of alike", 1, x.alike(0));
         due("alike(1)", 2, x.alike(1));
+        x.sit(1, 1);
+        x.sit(1, 1);
+        x.sit(1, 2);
+        x.sit(1, 2);
+        // b: 8 8 2 0, c: 9 9 0 0; g: 43 43 0 0, h: 36 41 0 0
+        due("alike(0)", 12, x.alike(0));
+        due("alike(1)", 4, x.alike(1));
+        for (int i = 0; i < 6; i++) {
+            x.sit(0, 2);
+        }
+        // g: 25 25 0 0
+        due("agree(0)", 12, x.agree(0));
+        due("agree(1)", 18, x.agree(1));
         for (int wrong : new int[] {-1, 2, MIN, MAX}) {
             due("alike(" + wrong + ")", -1, x.alike(wrong));
             due("agree(" + wrong + ")", -1, x.agree(wrong));
@@ -696,6 +746,9 @@ public final class PromisesTest {
         x = Checks.of("chair c 1;head g 0 1 1 1 0;keeps=own;");
         x.sit(0, 0);
         due("share(0, 0), rounded down", 333, x.share(0, 0));
+        x = Checks.of("chair c 1;head g 0 0 0 1 0;");
+        x.sit(0, 0);
+        due("share(0, 2), all there is", 1000, x.share(0, 2));
         x = Checks.of("chair c 1;");
         due("fullest(0): no heads", -2, x.fullest(0));
         due("fullest(1): no heads", -2, x.fullest(1));
@@ -714,6 +767,13 @@ public final class PromisesTest {
         due("nothing happens", 0, x.count(3));
         x = Checks.of("head h 0 59 52 49 50;" + house);
         due("silent(0)", -2, x.silent(0));
+        // each day one comes from the square and one fades, until a moth was there
+        x = Checks.of("chair c 0;head g 0 90 0 0 0;head h 0 50 0 0 0;visit h c 0;keeps=if which<1then own else 0;passes=which;"
+            + "fades=if hour<1then which else 0;moth 100;says 50;");
+        x.sit(0, 0);
+        due("silent(0): no moth", -2, x.silent(0));
+        x.hours(24);
+        due("silent(0): behind a moth", 1, x.silent(0));
     }
 
     private static void lostThenClean() {
@@ -802,6 +862,8 @@ public final class PromisesTest {
         x = Checks.of(house + "moth 0;");
         due("year(1, 0, 2, 20): no moths", 20, x.year(1, 0, 2, 20));
         due("year(1, 0, 2, 7): no moths", 7, x.year(1, 0, 2, 7));
+        x = Checks.of(house + "moth 1;seed 119;");
+        due("year(1, 0, 2, 1): the least of moths", 0, x.year(1, 0, 2, 1));
         x = Checks.of(house + "seed 9999;");
         due("year(1, 0, 2, 20), beyond the last seed", yearByHand(9999, 20), x.year(1, 0, 2, 20));
     }
@@ -982,8 +1044,16 @@ public final class PromisesTest {
         due("count(13)", 1, x.count(13));
         x.sit(0, 0);
         due("count(17)", 8, x.count(17));
+        due("count(6)", 119, x.count(6));
         due("count(18)", 17, x.count(18));
         due("count(13)", 0, x.count(13));
+        x = Checks.of("chair c 0;chair d 0;head h 9 1 0 0 0;");
+        x.sit(0, 0);
+        due("count(17): one is enough", 1, x.count(17));
+        due("count(15)", 2, x.count(15));
+        due("count(6)", 1, x.count(6));
+        x.sit(0, 0);
+        due("one goes back", 1, x.head(0, 0));
         for (int wrong : new int[] {-1, 19, 20, MIN, MAX}) {
             due("count(" + wrong + ")", -1, x.count(wrong));
         }
