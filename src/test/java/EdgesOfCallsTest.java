@@ -17,6 +17,7 @@ public final class EdgesOfCallsTest {
     }
 
     public static void main(String[] args) {
+        none();
         fiveHundredAndTwelveCalls();
         aNewObject();
         chair();
@@ -91,6 +92,11 @@ public final class EdgesOfCallsTest {
 
     private static void refused(String call, Consumer<HeadCloths> act) {
         Edges.nothingHappens(call, SMALL, EdgesOfCallsTest::busy, act);
+    }
+
+    private static void none() {
+        Edges.terms("public static final int NONE = -1;");
+        Edges.due("NONE", -1, HeadCloths.NONE);
     }
 
     private static void fiveHundredAndTwelveCalls() {
@@ -505,8 +511,10 @@ public final class EdgesOfCallsTest {
     }
 
     private static void sittings() {
-        Edges.promise(17, "SITTINGS: how many (i NONE), else the i-th (10 * the HEAD + the CHAIR); -2: not by three (i NONE or not); NONE: no such ones (i 0 .. 2), not so many.");
-        HeadCloths x = Edges.of("chair c 0;head a 0 20 0 0 0;head b 0 20 0 0 0;says 30;keeps=if which<1then 0else own;passes=if which<1then cloth else 0;");
+        Edges.promise(17, "SITTINGS: how many (i NONE), else the i-th (10 * the HEAD + the CHAIR); -2: not by three (i NONE or not); "
+            + "NONE: no such ones (i 0 .. 2), not so many.");
+        HeadCloths x = Edges.of("chair c 0;head a 0 20 0 0 0;head b 0 20 0 0 0;says 30;"
+            + "keeps=if which<1then 0else own;passes=if which<1then cloth else 0;");
         int[] due = {2, 10, 0, -1};
         for (int i = -1; i < 3; i++) {
             Edges.due(call("sittings", 0, 0, i), due[i + 1], x.sittings(0, 0, i));
@@ -1097,6 +1105,13 @@ public final class EdgesOfCallsTest {
         x = Edges.of("");
         for (int what = 0; what <= 18; what++) {
             Edges.due(call("count", what) + ", nothing", 0, x.count(what));
+        }
+        x = Edges.of("chair a 0;chair b 0;chair c 0;chair d 0;head e 9 1 0 0 0;head f 9 0 1 0 0;head g 9 0 0 1 0;head h 9 0 0 0 1;head i 9 0 0 0 0;");
+        Edges.due("count(18), all 9", 45, x.count(18));
+        for (int t = 0; t < 4; t++) {
+            x.sit(t, t);
+            Edges.due("count(17), one of each", (2 << t) - 1, x.count(17));
+            Edges.due("count(15), one in each", 15 & -(2 << t), x.count(15));
         }
     }
 

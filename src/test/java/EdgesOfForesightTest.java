@@ -137,6 +137,11 @@ public final class EdgesOfForesightTest {
         sittingsAre(x, 0, 0, 0);
         x.sit(0, 0);
         sittingsAre(x, 0, 0);
+        // no chair is there but those that are starched
+        x = Edges.of(house + "says 21;");
+        sittingsAre(x, 0, 0, 10, 0);
+        x.starch(0);
+        notByThree(x, 0, 0);
         x = Edges.of("head a 0 20 0 0 0;says 21;");
         notByThree(x, 0, 0);
         x = Edges.of("head a 0 20 0 0 0;says 20;");
@@ -265,7 +270,8 @@ public final class EdgesOfForesightTest {
         x.hours(72);
         Edges.due("when(1, 0), three days later", 128, x.when(1, 0));
         // said once, and no more then: the first time counts
-        x = Edges.of("chair c 0;head g 0 99 0 0 0;head h 0 49 0 0 0;visit h c 3;keeps=if which<1then own else 0;passes=which;fades=if hour<5then 0else which;");
+        x = Edges.of("chair c 0;head g 0 99 0 0 0;head h 0 49 0 0 0;visit h c 3;keeps=if which<1then own else 0;passes=which;"
+            + "fades=if hour<5then 0else which;");
         x.sit(0, 0);
         Edges.due("when(1, 0), the first time", 4, x.when(1, 0));
     }
@@ -379,16 +385,21 @@ public final class EdgesOfForesightTest {
         Edges.due("a bit more", 250, x.share(2, 1));
         x.wash(0);
         Edges.due("empty once more", 0, x.share(0, 0));
-        // 999 of 1000 and less: 2 of 297 is 6.7
+        // 2000 / 297 is a bit less than 7
         x = Edges.of("chair c 0;head g 0 99 2 98 98;keeps=own;passes=0;");
         x.sit(0, 0);
         Edges.due("2 of 297", 6, x.share(0, 1));
+        x = Edges.of("chair c 0;head g 0 0 1 0 0;");
+        x.sit(0, 0);
+        Edges.due("1 of 1", 1000, x.share(0, 1));
+        Edges.due("0 of 1", 0, x.share(0, 0));
     }
 
     private static void silent() {
         Edges.terms("SILENT of a THOUGHT: behind how many HOURS (0 .. 200) nobody SAYS it.");
         // one a day goes in that hour: the ninth in hour 192 and more
-        int[][] rows = {{0, 50, 1}, {0, 58, 193}, {6, 58, 199}, {7, 58, 200}, {8, 58, -2}, {23, 57, 192}, {0, 59, -2}, {7, 59, -2}, {7, 99, -2}, {5, 49, 0}};
+        int[][] rows = {{0, 50, 1}, {0, 58, 193}, {6, 58, 199}, {7, 58, 200}, {8, 58, -2}, {23, 57, 192}, {0, 59, -2}, {7, 59, -2},
+            {7, 99, -2}, {5, 49, 0}};
         for (int[] row : rows) {
             HeadCloths x = Edges.of("head h 0 " + row[1] + " 0 0 0;fades=if hour<" + row[0] + " then 0else if " + row[0] + "<hour then 0else 1;");
             Edges.due("silent(0), hour " + row[0] + ", has " + row[1], row[2], x.silent(0));
@@ -490,6 +501,14 @@ public final class EdgesOfForesightTest {
                 Edges.due("year, n " + n, -1, x.year(0, 0, n, 1));
             }
         }
+        for (int moth : new int[] {1, 2, 99}) {
+            HeadCloths x = Edges.of(house + "seed 110;moth " + moth + ";");
+            int said = 0;
+            for (int s = 1; s <= 20; s++) {
+                said += Model.lot(100, 110 + s - 1, 0) >= moth ? 1 : 0;
+                Edges.due("year(1, 0, 2, " + s + "), moth " + moth, said, x.year(1, 0, 2, s));
+            }
+        }
         HeadCloths x = Edges.of(house + "moth 0;");
         Edges.due("no moths, 1", 1, x.year(1, 0, 2, 1));
         Edges.due("no moths, 20", 20, x.year(1, 0, 2, 20));
@@ -510,6 +529,14 @@ public final class EdgesOfForesightTest {
             x.forget();
             x.tell(0, 0, row[0], false);
             Edges.due("who(1, 1): not " + row[0] + " or more", 7 - row[1], x.who(1, 1));
+            x.forget();
+        }
+        // in that chair, of that thought
+        x = Edges.of("chair c 0;chair d 1;chair e 2;head g 0 10 0 0 0;head h 0 0 0 0 10;keeps=own*mesh;passes=0;");
+        int[][] rows2 = {{0, 0, 0}, {1, 0, 1}, {2, 0, 1}, {1, 3, 2}, {2, 3, 2}, {1, 1, 0}, {0, 3, 0}};
+        for (int[] row : rows2) {
+            x.tell(row[0], row[1], 1, true);
+            Edges.due("chair " + row[0] + ", thought " + row[1], row[2], x.who(1, 1));
             x.forget();
         }
         // what the square has now counts, and what would be passed on

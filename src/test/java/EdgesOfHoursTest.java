@@ -176,6 +176,11 @@ public final class EdgesOfHoursTest {
             x.sit(one[0], one[1]);
         }
         x.hours(5);
+        // what was told of others ahead of it changes nothing
+        for (int other = 0; other < 4; other++) {
+            x.tells(0, 0, 1, other);
+            x.tells(0, 1, 0, 3 - other);
+        }
         Edges.due(LAWS[law] + "=" + asked, 3, x.tells(law == 3 ? 99 : 1, law == 2 ? 99 : 2, 3, law));
     }
 
@@ -407,6 +412,17 @@ public final class EdgesOfHoursTest {
                 }
             }
         }
+        // LOT 4 of seed 7 and 1 is 2, of 7 and 9 it is 0
+        HeadCloths y = Edges.of("chair a 0;chair b 0;chair c 0;chair d 0;head h 0 99 99 99 99;keeps=4;passes=0;moth 100;seed 7;");
+        for (int chair = 0; chair < 4; chair++) {
+            y.sit(0, chair);
+        }
+        y.hours(2);
+        for (int chair = 0; chair < 4; chair++) {
+            int left = chair == 2 || chair == 0 ? 0 : 4;
+            Edges.squares("the others are as they were", y, chair, left, left, left, left);
+        }
+        Edges.due("count(5)", 32, y.count(5));
         HeadCloths x = Edges.of("head h 0 99 99 99 99;moth 100;");
         Edges.due("no chairs: hours(72)", 72, x.hours(72));
         Edges.due("no chairs: count(5)", 0, x.count(5));

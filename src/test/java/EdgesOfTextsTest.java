@@ -255,10 +255,41 @@ public final class EdgesOfTextsTest {
         }
         Edges.fine("chair abcdefgh 1;chair abcdefgi 1;chair bbcdefgh 1;chair abcdefg 1;");
         Edges.fault("chair abcdefgh 1;chair abcdefgh 1;", 3, 23);
+        manyNames();
         // beside the letters: ` and {, and what is 32 less
         for (char sign : new char[] {'`', '{', 'A', 'Z', '_', (char) 225}) {
             Edges.fault("chair " + sign + " 1;", 1, 6);
             Edges.fault("chair a" + sign + " 1;", 1, 7);
+        }
+    }
+
+    private static void manyNames() {
+        for (char letter = 'a'; letter <= 'z'; letter++) {
+            String text = "";
+            for (int size = 1; size <= 8; size++) {
+                String name = String.valueOf(letter).repeat(size);
+                text += size <= 4 ? "chair " + name + " 1;" : "head " + name + " 1 1 1 1 1;";
+            }
+            Edges.fine(text);
+        }
+        java.util.Random random = new java.util.Random(7);
+        for (int i = 0; i < 300; i++) {
+            TreeSet<String> names = new TreeSet<>();
+            while (names.size() < 9) {
+                String name = "";
+                int size = 1 + random.nextInt(8);
+                for (int k = 0; k < size; k++) {
+                    name += (char) ('a' + random.nextInt(i % 2 == 0 ? 26 : 2) * (i % 2 == 0 ? 1 : 25));
+                }
+                names.add(name);
+            }
+            names.removeAll(Model.WORDS);
+            String text = "";
+            int told = 0;
+            for (String name : names) {
+                text += told++ < 4 ? "chair " + name + " 1;" : "head " + name + " 1 1 1 1 1;";
+            }
+            Edges.fine(text);
         }
     }
 
@@ -812,13 +843,16 @@ public final class EdgesOfTextsTest {
     private static void inPlaceOfTheOneAhead() {
         Edges.terms("else it is in place of the one ahead: hour 0, squares empty, not starched; nothing can be undone, nothing is TOLD, SLOTS hold "
             + "nothing.");
-        for (String text : List.of("", "chair d 3;head i 2 60 2 3 4;visit i d 5;")) {
-            HeadCloths x = Edges.of("chair c 4;chair b 1;head h 1 50 2 3 4;visit h c 2;visit h b 3;moth 100;says 7;monday 1;fades=1;keeps=own;"
-                + "passes=0;washes=1;seed 9;");
+        String later = "chair d 3;chair e 1;head i 2 60 20 3 4;head j 1 8 50 49 0;visit i d 5;visit j e 6;moth 50;";
+        for (String text : List.of("", "chair d 3;", later)) {
+            HeadCloths x = Edges.of("chair c 4;chair b 1;chair a 2;head h 1 50 40 30 20;head g 1 99 99 99 99;visit h c 2;visit h b 3;moth 90;says 7;"
+                + "monday 1;fades=1;keeps=9;passes=0;washes=1;seed 9;");
             x.keep(0, false);
             x.hours(30);
-            x.sit(0, 0);
-            x.starch(0);
+            for (int chair = 0; chair < 3; chair++) {
+                x.sit(1, chair);
+                x.starch(chair);
+            }
             x.tell(0, 0, 1, true);
             x.hold(0);
             x.hold(1);
@@ -832,13 +866,31 @@ public final class EdgesOfTextsTest {
             }
             Edges.due("undo()", false, x.undo());
             Edges.due("count(3)", 0, x.count(3));
-            x.hours(30);
-            y.hours(30);
+            for (int i = 0; i < 20; i++) {
+                Edges.due("a moth in hour " + 3 * i, y.count(12), x.count(12));
+                x.hours(3);
+                y.hours(3);
+            }
             x.sit(0, 0);
             y.sit(0, 0);
             x.wash(0);
             y.wash(0);
-            Edges.same("30 hours later: " + text, x, y);
+            Edges.same("60 hours later: " + text, x, y);
         }
+        manyTexts();
+    }
+
+    /** Nothing of the texts ahead, with faults or without, is left in the way. */
+    private static void manyTexts() {
+        HeadCloths x = new HeadCloths();
+        for (int round = 1; round <= 9; round++) {
+            Checks.type(x, "fades=8;says 3;keeps=" + "1+".repeat(190) + "1;" + (round % 3 == 0 ? "?" : ""));
+            Edges.due("read(), round " + round, round % 3 == 0 ? 1 : 0, x.read());
+        }
+        Checks.type(x, "chair c 0;head h 0 90 49 0 0;keeps=" + "1+".repeat(30) + "9;");
+        Edges.due("read()", 0, x.read());
+        Edges.due("the last keeps", 39, x.tells(0, 0, 0, 0));
+        Edges.due("fades is not told", 0, x.tells(0, 0, 0, 3));
+        Edges.due("says is not told", 1, x.head(0, 5));
     }
 }
