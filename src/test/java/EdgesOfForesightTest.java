@@ -142,6 +142,18 @@ public final class EdgesOfForesightTest {
         sittingsAre(x, 0, 0, 10, 0);
         x.starch(0);
         notByThree(x, 0, 0);
+        // nobody is there but the one: another who sat ahead of it would do
+        String one = "chair c 0;chair d 1;head a 0 10 0 0 0;says 10;keeps=if sat<1then own-mesh*5else 0;passes=if sat<1then 0else if sat<2then 5else 0;";
+        x = Edges.of(one);
+        x.sit(0, 1);
+        x.change(0, 1);
+        x.starch(1);
+        notByThree(x, 0, 0);
+        x = Edges.of(one + "head b 0 0 0 0 0;");
+        x.sit(0, 1);
+        x.change(0, 1);
+        x.starch(1);
+        sittingsAre(x, 0, 0, 10, 0);
         x = Edges.of("head a 0 20 0 0 0;says 21;");
         notByThree(x, 0, 0);
         x = Edges.of("head a 0 20 0 0 0;says 20;");
